@@ -294,9 +294,9 @@ public final class PortolanHall {
             case 3:
                 return asked.source[point];
             case 4:
-                return asked.knows(point) ? errorX(asked, point) : NOWHERE;
+                return asked.knows(point) ? errorOf(asked, point, true) : NOWHERE;
             case 5:
-                return asked.knows(point) ? errorY(asked, point) : NOWHERE;
+                return asked.knows(point) ? errorOf(asked, point, false) : NOWHERE;
             default:
                 throw new IllegalArgumentException("what is out of range");
         }
@@ -364,9 +364,9 @@ public final class PortolanHall {
         needBasin(basin);
         switch (what) {
             case 0:
-                return shiftX(asked, basin);
+                return shift(asked, basin, true);
             case 1:
-                return shiftY(asked, basin);
+                return shift(asked, basin, false);
             case 2:
                 return residual(asked, basin);
             default:
@@ -525,12 +525,8 @@ public final class PortolanHall {
 
     // ---- how charts are compared
 
-    private int errorX(Chart chart, int point) {
-        return chart.x[point] - truth.x[point];
-    }
-
-    private int errorY(Chart chart, int point) {
-        return chart.y[point] - truth.y[point];
+    private int errorOf(Chart chart, int point, boolean inX) {
+        return inX ? chart.x[point] - truth.x[point] : chart.y[point] - truth.y[point];
     }
 
     private boolean hasTrueName(Chart chart, int point) {
@@ -547,35 +543,26 @@ public final class PortolanHall {
         return count;
     }
 
-    private int shiftX(Chart chart, int basin) {
-        int known = chart.knownFrom(firstOf(basin), lastOf(basin));
+    private int shift(Chart chart, int basin, boolean inX) {
+        int known = 0;
         int sum = 0;
         for (int point = firstOf(basin); point <= lastOf(basin); point++) {
             if (chart.knows(point)) {
-                sum += errorX(chart, point);
-            }
-        }
-        return known > 0 ? sum / known : 0;
-    }
-
-    private int shiftY(Chart chart, int basin) {
-        int known = chart.knownFrom(firstOf(basin), lastOf(basin));
-        int sum = 0;
-        for (int point = firstOf(basin); point <= lastOf(basin); point++) {
-            if (chart.knows(point)) {
-                sum += errorY(chart, point);
+                sum += errorOf(chart, point, inX);
+                known++;
             }
         }
         return known > 0 ? sum / known : 0;
     }
 
     private int residual(Chart chart, int basin) {
-        int meanX = shiftX(chart, basin);
-        int meanY = shiftY(chart, basin);
+        int shiftX = shift(chart, basin, true);
+        int shiftY = shift(chart, basin, false);
         int sum = 0;
         for (int point = firstOf(basin); point <= lastOf(basin); point++) {
             if (chart.knows(point)) {
-                sum += Math.abs(errorX(chart, point) - meanX) + Math.abs(errorY(chart, point) - meanY);
+                sum += Math.abs(errorOf(chart, point, true) - shiftX);
+                sum += Math.abs(errorOf(chart, point, false) - shiftY);
             }
         }
         return sum;
@@ -600,7 +587,7 @@ public final class PortolanHall {
         }
         // Both errors are taken against the same true place: alike errors are alike places.
         boolean alike = one.x[point] == two.x[point] && one.y[point] == two.y[point];
-        return alike && (errorX(one, point) != 0 || errorY(one, point) != 0);
+        return alike && (errorOf(one, point, true) != 0 || errorOf(one, point, false) != 0);
     }
 
     private int chartsWith(int island) {

@@ -153,6 +153,8 @@ public final class AskingTest {
         h.copy(0, 0, PortolanHall.PRICKED, 1501);
         Check.same("year", h.of(1, 0), 1501);
         Check.same("false names", h.of(1, 6), 3);
+        h.exchange(1, 0, 12);
+        Check.same("false names, of the point 0 too", h.of(1, 6), 5);
         Check.index("chart 2 of two", () -> h.of(2, 0));
         Check.index("chart -1", () -> h.of(-1, 0));
         Check.index("chart 2, what 7", () -> h.of(2, 7));
@@ -177,6 +179,10 @@ public final class AskingTest {
         islandIs(h, 0, 0, 7, -8, 1, NONE);
         h.island(0, 1, 2);
         islandIs(h, 1, 1, 1, 2, 0, 0);
+        for (int chart = 5; chart < 12; chart++) {
+            h.copy(0, 0, PortolanHall.EYE, 1500);
+        }
+        islandIs(h, 1, 8, 1, 2, 0, 11);
         Check.index("island 2 of two", () -> h.ofIsland(2, 0));
         Check.index("island -1", () -> h.ofIsland(-1, 0));
         Check.index("island 2, what 5", () -> h.ofIsland(2, 5));
@@ -291,6 +297,7 @@ public final class AskingTest {
         h.chart(2, 1500);
         h.copy(0, 0, PortolanHall.PRICKED, 1500);
         sharedIs(h, 0, 1, 2, 0, 0);
+        Check.same("kin of the copy", h.kin(1, 0), 0);
         h.shrink(1, 0, 50, false);
         sharedIs(h, 0, 1, 0, 0, 0);
     }

@@ -272,17 +272,20 @@ public final class MakingTest {
         Check.same("read as another", h.at(1, 2, 2), 4);
         Check.same("of an unknown point", h.at(1, 23, 2), 99);
         Check.same("of another copyist", h.at(1, 4, 2), 5);
+        h.copy(1, 3, PortolanHall.PRICKED, 2000);
+        Check.same("the name 99, not told", h.at(2, 23, 2), 99);
+        Check.same("the name 1, not told", h.at(2, 0, 2), 1);
         h.copy(1, 0, PortolanHall.EYE, 1500);
-        Check.same("read again", h.at(2, 1, 2), 4);
-        Check.same("read back", h.at(2, 23, 2), 24);
+        Check.same("read again", h.at(3, 1, 2), 4);
+        Check.same("read back", h.at(3, 23, 2), 24);
         h.reads(0, 2, 2);
         h.copy(0, 0, PortolanHall.GRID, 1500);
-        Check.same("told as itself", h.at(3, 1, 2), 2);
-        Check.same("told as before", h.at(3, 2, 2), 4);
+        Check.same("told as itself", h.at(4, 1, 2), 2);
+        Check.same("told as before", h.at(4, 2, 2), 4);
         h.reads(0, 3, 77);
         h.copy(0, 0, PortolanHall.GRID, 1500);
-        Check.same("told anew", h.at(4, 2, 2), 77);
-        Check.same("the older copy stays", h.at(3, 2, 2), 4);
+        Check.same("told anew", h.at(5, 2, 2), 77);
+        Check.same("the older copy stays", h.at(4, 2, 2), 4);
     }
 
     private static void copyFrame() {

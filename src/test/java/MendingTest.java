@@ -147,6 +147,11 @@ public final class MendingTest {
         Check.state("a ring by it", () -> h.paste(3, 2, 5, 5));
         Check.same("no ring ahead of it", h.paste(1, 3, 1, 1), 1);
         Check.same("pasted again", h.paste(3, 2, 2, 4), 3);
+        Check.state("a ring of the last point alone", () -> h.paste(2, 3, 1, 2));
+        Check.state("a ring of the first point alone", () -> h.paste(2, 3, 4, 5));
+        Check.state("a ring of one in the midst", () -> h.paste(0, 3, 1, 9));
+        Check.same("source ahead of the ring", h.at(2, 1, 3), 1);
+        Check.same("source ahead of the ring", h.at(0, 1, 3), NONE);
     }
 
     private static void pasteAfterLoss() {
@@ -181,8 +186,50 @@ public final class MendingTest {
         place(h, 2, 16, -250, 4550);
         Check.same("moved to within", h.paste(2, 0, 16, 17), 2);
         place(h, 2, 17, -250 + 910, 4550 + 1690);
+        Check.same("all points are known", h.of(0, 1), 24);
+        h.lose(1, 18, 23);
+        h.lose(2, 17, 17);
+        Check.state("beyond, ahead of unknown ones", () -> h.paste(2, 1, 17, 23));
         edgeOf(9999, true);
         edgeOf(10000, false);
+        edgeAcross(0, 1);
+        edgeAcross(1, 0);
+    }
+
+    /** Along x or y alone, up or down: the point 8 is brought to 9900, and the other ones are 99 and 100 further. */
+    private static void edgeAcross(int inX, int inY) {
+        for (int sign = -1; sign <= 1; sign += 2) {
+            int x = sign * inX;
+            int y = sign * inY;
+            PortolanHall h = new PortolanHall();
+            int[] far = {375, 474, 475, 500};
+            for (int i = 0; i < 4; i++) {
+                h.coast(8 + i, far[i] * x, far[i] * y, 9 + i, 1000);
+            }
+            h.pilot(0, 0);
+            for (int i = 0; i < 4; i++) {
+                h.report(0, 0, 8 + i);
+            }
+            h.chart(4, 1000);
+            h.chart(1, 1000);
+            for (int i = 0; i < 4; i++) {
+                h.shrink(1, 1, 200, false);
+            }
+            h.shrink(1, 1, 165, false);
+            place(h, 1, 8, 9900 * x, 9900 * y);
+            Check.same("9999", h.paste(1, 0, 8, 9), 2);
+            place(h, 1, 9, 9999 * x, 9999 * y);
+            Check.state("10000", () -> h.paste(1, 0, 8, 10));
+            place(h, 1, 10, NOWHERE, NOWHERE);
+            Check.state("10098", () -> h.shrink(1, 1, 101, false));
+            for (int i = 0; i < 4; i++) {
+                h.shrink(0, 1, 200, false);
+            }
+            Check.state("8000 to 10000", () -> h.shrink(0, 1, 125, false));
+            place(h, 0, 11, 8000 * x, 8000 * y);
+            Check.same("8000 to 9920", h.shrink(0, 1, 124, false), 100);
+            place(h, 0, 11, 9920 * x, 9920 * y);
+        }
     }
 
     /** One place of a chart is brought to x and -x; then it is pasted, or not. */
@@ -342,22 +389,6 @@ public final class MendingTest {
         h.lose(0, 9, 15);
         Check.same("the lost ones do not count", h.shrink(0, 1, 200, false), 100);
         place(h, 0, 15, NOWHERE, NOWHERE);
-        mirrored();
-    }
-
-    /** The same beyond -9999, in x. */
-    private static void mirrored() {
-        PortolanHall h = new PortolanHall();
-        h.coast(9, -500, 0, 2, 1000);
-        h.pilot(0, 0);
-        h.report(0, 0, 9);
-        h.chart(1, 1000);
-        for (int i = 0; i < 4; i++) {
-            h.shrink(0, 1, 200, false);
-        }
-        Check.state("-10000", () -> h.shrink(0, 1, 125, false));
-        Check.same("-9920", h.shrink(0, 1, 124, false), 100);
-        place(h, 0, 9, -9920, 0);
     }
 
     private static void scales() {
