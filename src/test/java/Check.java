@@ -10,8 +10,18 @@ final class Check {
 
     private static int passed = 0;
     private static int failed = 0;
+    private static String about = "";
 
     private Check() {
+    }
+
+    /** What the checks from now on are about: it stands ahead of each that fails. */
+    static void about(String test) {
+        about = test + ": ";
+    }
+
+    static int made() {
+        return passed + failed;
     }
 
     static void same(String what, long got, long due) {
@@ -19,12 +29,16 @@ final class Check {
             passed++;
         } else {
             failed++;
-            System.out.println(what + " answered " + got + ", due is " + due);
+            System.out.println(about + what + " answered " + got + ", due is " + due);
         }
     }
 
     static void yes(String what, boolean holds) {
         same(what, holds ? 1 : 0, 1);
+    }
+
+    static void taken(String what, Deed deed) {
+        refuses(what, null, deed);
     }
 
     static void index(String what, Deed deed) {
@@ -39,14 +53,14 @@ final class Check {
         refuses(what, IllegalStateException.class, deed);
     }
 
-    /** Exactly the class that is due: what the machine throws is of a class below it. */
+    /** Exactly the class that is due, as what the machine throws is of a class below it; null if nothing is due. */
     private static void refuses(String what, Class<?> due, Deed deed) {
         Class<?> got = thrownBy(deed);
         if (got == due) {
             passed++;
         } else {
             failed++;
-            System.out.println(what + " threw " + got + ", due is " + due);
+            System.out.println(about + what + " threw " + got + ", due is " + due);
         }
     }
 
